@@ -1195,15 +1195,16 @@ public final class ClosePacking {
             advance();
             // A line has more than one byte, so that the tape ends ahead of this count.
             for (int line = 0; line <= Tape.ROOM; line++) {
-                if (!readsLine(lab)) {
+                if (!mayBegin(lab) || !readsLine(lab)) {
                     return false;
                 }
                 if (kind == END) {
                     return lab.stacks.count > 0 || fails(LACKS);
                 }
-                if (!takesSign(';')) {
-                    return false;
+                if (kind != SIGN || value != ';') {
+                    return fails(FORM);
                 }
+                advance();
             }
             return fails(FORM);
         }
@@ -1213,28 +1214,37 @@ public final class ClosePacking {
             return false;
         }
 
-        private boolean readsLine(Lab lab) {
+        /** Whether a line may begin with the token. */
+        private boolean mayBegin(Lab lab) {
             if (isWord("lab")) {
-                return readsHead(lab);
+                return !lab.complete || fails(TOLD_AGAIN);
             }
             boolean stack = isWord("stack");
             boolean unsure = isWord("unsure");
-            if (!stack && !unsure && !isWord("agreed")) {
+            boolean agreed = isWord("agreed");
+            if (!stack && !unsure && !agreed) {
                 return fails(FORM);
             }
             if (!lab.complete) {
                 return fails(LACKS);
             }
-            if (stack) {
+            boolean full = stack && lab.stacks.count >= MOST_STACKS
+                    || unsure && lab.unsureCount >= MOST_UNSURE
+                    || agreed && lab.agreedCount >= MOST_AGREED;
+            return !full || fails(MANY);
+        }
+
+        private boolean readsLine(Lab lab) {
+            if (isWord("lab")) {
+                return readsHead(lab);
+            }
+            if (isWord("stack")) {
                 return readsStack(lab);
             }
-            return unsure ? readsUnsure(lab) : readsAgreed(lab);
+            return isWord("unsure") ? readsUnsure(lab) : readsAgreed(lab);
         }
 
         private boolean readsHead(Lab lab) {
-            if (lab.complete) {
-                return fails(TOLD_AGAIN);
-            }
             advance();
             if (!takesWord("near") || !takesNumber()) {
                 return false;
@@ -1258,9 +1268,6 @@ public final class ClosePacking {
         }
 
         private boolean readsStack(Lab lab) {
-            if (lab.stacks.count >= MOST_STACKS) {
-                return fails(MANY);
-            }
             advance();
             if (!isName()) {
                 return fails(FORM);
@@ -1283,9 +1290,6 @@ public final class ClosePacking {
         }
 
         private boolean readsUnsure(Lab lab) {
-            if (lab.unsureCount >= MOST_UNSURE) {
-                return fails(MANY);
-            }
             advance();
             int stack = stackOfName(lab);
             if (stack == NONE) {
@@ -1304,9 +1308,6 @@ public final class ClosePacking {
         }
 
         private boolean readsAgreed(Lab lab) {
-            if (lab.agreedCount >= MOST_AGREED) {
-                return fails(MANY);
-            }
             advance();
             int stack = stackOfName(lab);
             if (stack == NONE) {
@@ -1360,14 +1361,6 @@ public final class ClosePacking {
 
         private boolean takesWord(String text) {
             if (!isWord(text)) {
-                return fails(FORM);
-            }
-            advance();
-            return true;
-        }
-
-        private boolean takesSign(char sign) {
-            if (kind != SIGN || value != sign) {
                 return fails(FORM);
             }
             advance();
