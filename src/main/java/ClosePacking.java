@@ -937,7 +937,7 @@ public final class ClosePacking {
             return (way & ~how) == 0;
         }
 
-        static int told(int row, int n, int way) {
+        static int inWay(int row, int n, int way) {
             int result = (way & 1) != 0 ? twinned(row, n) : row;
             return (way & 2) != 0 ? fromBelow(result, n) : result;
         }
@@ -956,7 +956,7 @@ public final class ClosePacking {
             int result = row;
             for (int way = 0; way <= LAST_HOW; way++) {
                 if (allows(how, way)) {
-                    result = Math.min(result, leastTurned(told(row, n, way), n));
+                    result = Math.min(result, leastTurned(inWay(row, n, way), n));
                 }
             }
             return result;
@@ -965,7 +965,7 @@ public final class ClosePacking {
         /** Stops at the first lesser row: nearly all rows of a long count have one soon. */
         static boolean isLeastAlike(int row, int n, int how) {
             for (int way = 0; way <= LAST_HOW; way++) {
-                int turning = told(row, n, way);
+                int turning = inWay(row, n, way);
                 for (int k = 0; k < n && allows(how, way); k++) {
                     if (turning < row) {
                         return false;
@@ -982,7 +982,7 @@ public final class ClosePacking {
                 boolean isNew = allows(how, way);
                 for (int former = 0; former < way && isNew; former++) {
                     isNew = !allows(how, former)
-                            || leastTurned(told(row, n, former), n) != leastTurned(told(row, n, way), n);
+                            || leastTurned(inWay(row, n, former), n) != leastTurned(inWay(row, n, way), n);
                 }
                 classes += isNew ? 1 : 0;
             }
@@ -992,7 +992,7 @@ public final class ClosePacking {
         static int fewestSlips(int row, int other, int n, int how) {
             int fewest = n;
             for (int way = 0; way <= LAST_HOW; way++) {
-                int turning = told(other, n, way);
+                int turning = inWay(other, n, way);
                 for (int k = 0; k < n && allows(how, way); k++) {
                     fewest = Math.min(fewest, Integer.bitCount(row ^ turning));
                     turning = turned(turning, n);

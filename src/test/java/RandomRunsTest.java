@@ -14,6 +14,7 @@ public final class RandomRunsTest {
     private static final List<String> FACE = new ArrayList<>();
     private static final List<String> DEAR = List.of("ground", "groundRow", "groundMany", "groundBest", "kinds",
             "pass", "valley");
+    private static final List<String> STACK_SECOND = List.of("sameLines", "alike", "slips", "pass", "differs");
     private static final int[] EDGES = {-2, -1, 0, 1, 2, 3, 4, 5, 6, 7, 8, 9, 10, 11, 12, 13, 35, 36, 37, 200, 201,
         65536, 65537, Integer.MAX_VALUE, Integer.MIN_VALUE};
 
@@ -81,7 +82,9 @@ public final class RandomRunsTest {
         Class<?>[] types = m.getParameterTypes();
         Object[] arguments = new Object[types.length];
         for (int i = 0; i < types.length; i++) {
-            int small = random.nextInt(i == 0 ? 6 : 13) - (random.nextInt(10) == 0 ? 1 : 0);
+            boolean stack = i == 0 || i == 1 && STACK_SECOND.contains(m.getName());
+            int stacks = Math.max(1, model.size(4));
+            int small = random.nextInt(stack ? stacks : 13) - (random.nextInt(10) == 0 ? 1 : 0);
             int number = random.nextInt(12) == 0 ? EDGES[random.nextInt(EDGES.length)] : small;
             arguments[i] = types[i] == boolean.class ? (Object) random.nextBoolean() : (Object) number;
         }
@@ -89,6 +92,9 @@ public final class RandomRunsTest {
         if (name.equals("grown") || name.equals("longestRun")) {
             arguments[0] = random.nextInt(10) == 0 ? arguments[0] : (Object) random.nextInt(65537);
             arguments[1] = random.nextInt(3) == 0 ? (Object) random.nextInt(210) : arguments[1];
+        }
+        if (name.equals("fitAt") || name.equals("size") || name.equals("odds")) {
+            arguments[0] = random.nextInt(12) - 1;
         }
         if (name.startsWith("ground") && types.length > 0 || name.equals("kinds") || name.equals("meanSum")) {
             arguments[0] = random.nextInt(4) == 0 ? arguments[0] : (Object) random.nextInt(13);

@@ -50,24 +50,34 @@ final class Texts {
         return joined.length() <= 500 ? joined : joined.substring(0, 500);
     }
 
+    /** Agreed ones are mostly those of rows with some unsure steps the other way: then something fits. */
     private static void addLater(List<String> lines, List<String> names, List<String> rows, Random random) {
-        List<String> places = new ArrayList<>();
-        List<String> distances = new ArrayList<>();
+        List<int[]> places = new ArrayList<>();
         for (int s = 0; s < rows.size(); s++) {
             for (int k = 0; k < rows.get(s).length(); k++) {
-                places.add("unsure " + names.get(s) + " " + k);
-            }
-            for (int m = 1; m <= 36; m++) {
-                int layers = random.nextInt(4) == 0 ? random.nextInt(37) : Math.floorMod(agreeing(rows.get(s), m), 37);
-                distances.add("agreed " + names.get(s) + " " + m + " " + layers);
+                places.add(new int[] {s, k});
             }
         }
         java.util.Collections.shuffle(places, random);
-        java.util.Collections.shuffle(distances, random);
+        List<String> real = new ArrayList<>(rows);
         int unsure = Math.min(places.size(), random.nextInt(random.nextInt(8) == 0 ? 6 : 5));
-        int agreed = random.nextInt(random.nextInt(8) == 0 ? 8 : 3);
-        lines.addAll(places.subList(0, unsure));
-        lines.addAll(distances.subList(0, agreed));
+        for (int[] place : places.subList(0, unsure)) {
+            lines.add("unsure " + names.get(place[0]) + " " + place[1]);
+            if (random.nextInt(2) == 0) {
+                char[] steps = real.get(place[0]).toCharArray();
+                steps[place[1]] = steps[place[1]] == 'u' ? 'd' : 'u';
+                real.set(place[0], new String(steps));
+            }
+        }
+        List<String> distances = new ArrayList<>();
+        for (int s = 0; s < real.size(); s++) {
+            for (int m = 1; m <= 36; m++) {
+                int layers = random.nextInt(12) == 0 ? random.nextInt(37) : agreeing(real.get(s), m);
+                distances.add("agreed " + names.get(s) + " " + m + " " + layers);
+            }
+        }
+        java.util.Collections.shuffle(distances, random);
+        lines.addAll(distances.subList(0, random.nextInt(random.nextInt(8) == 0 ? 8 : 5)));
     }
 
     /** So many layers agree: told so, there is something that fits now and then. */
