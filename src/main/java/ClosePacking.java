@@ -1627,7 +1627,7 @@ public final class ClosePacking {
             queued = 0;
             leastAbove = ABOVE_ALL;
             reach(from);
-            for (int head = 0; head < queued; head++) {
+            for (int head = 0; head < queued && head < MOST_ROWS; head++) {
                 for (int k = 0; k < steps; k++) {
                     int row = at(queue, head) ^ (1 << k);
                     if (at(energies, row) <= limit) {

@@ -10,6 +10,7 @@ public final class ActsTest {
         cutting();
         undoing();
         undoingKeepsSixteen();
+        undoingAllSorts();
         images();
         imagesAndUndoing();
         refusals();
@@ -122,6 +123,34 @@ public final class ActsTest {
         Check.due("c", x.stack(2, 1), 4093);
     }
 
+    /** Acts of all sorts on all stacks, each with its row and steps ahead of it; the latest 16 come back. */
+    private static void undoingAllSorts() {
+        ClosePacking x = Check.told(TEXT);
+        int acts = 41;
+        int[][] ahead = new int[acts][];
+        for (int i = 0; i < acts; i++) {
+            int s = i * i % 3 == 1 ? i % 2 : 2 - i % 3;
+            ahead[i] = new int[] {s, x.stack(s, 0), x.stack(s, 1)};
+            if (i % 4 == 0) {
+                x.turn(s);
+            } else if (x.stack(s, 0) == 12 || i % 3 == 1 && x.stack(s, 0) > 2) {
+                x.cut(s);
+            } else if (i % 5 == 0) {
+                x.slip(s, 1);
+            } else {
+                x.grow(s, i % 2 == 0);
+            }
+            Check.due("acts that can be undone", x.size(7), Math.min(16, i + 1));
+        }
+        for (int i = acts - 1; i >= acts - 16; i--) {
+            x.energy(-1);
+            Check.due(x, "undo() of act " + i, x.undo(), true, 0);
+            Check.due("steps ahead of act " + i, x.stack(ahead[i][0], 0), ahead[i][1]);
+            Check.due("row ahead of act " + i, x.stack(ahead[i][0], 1), ahead[i][2]);
+        }
+        Check.due(x, "undo() of the 17th", x.undo(), false, 6);
+    }
+
     private static void images() {
         ClosePacking x = Check.told(TEXT);
         Check.due(x, "image() 0", x.image(), 0, 0);
@@ -138,6 +167,7 @@ public final class ActsTest {
         int[][] rows = {{6, 2, 4094}, {12, 3, 4094}, {12, 0, 2047}};
         int[] order = {1, 0, 2, 0, 1};
         for (int image : order) {
+            x.energy(-1);
             Check.due(x, "back(" + image + ")", x.back(image), true, 0);
             for (int s = 0; s < 3; s++) {
                 Check.due("steps of " + s + " by image " + image, x.stack(s, 0), steps[image][s]);

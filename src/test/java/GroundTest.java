@@ -16,7 +16,10 @@ public final class GroundTest {
     private static void due(ClosePacking x, int n, int energy, int row, int many) {
         Check.due(x, "ground(" + n + ")", x.ground(n), energy, 0);
         Check.due(x, "groundRow(" + n + ")", x.groundRow(n), row, 0);
+        x.groundBest();
         Check.due(x, "groundMany(" + n + ")", x.groundMany(n), many, 0);
+        x.groundBest();
+        Check.due(x, "groundRow(" + n + ") again", x.groundRow(n), row, 0);
     }
 
     private static void likeNeighbours() {

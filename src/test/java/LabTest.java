@@ -129,6 +129,13 @@ public final class LabTest {
         Check.due(x, "undo() anew", x.undo(), false, 6);
         Check.due(x, "back(0) anew", x.back(0), false, 1);
         Check.due("stack(0, 1) anew", x.stack(0, 1), 15);
+        Check.due(x, "a third lab", Check.tell(x, HEAD + "stack a uuu;stack b uuuu;stack c ud"), 3, 0);
+        Check.due("no unsure ones of the first", x.size(5), 0);
+        Check.due("no agreed ones of the first", x.size(6), 0);
+        Check.due(x, "a fourth lab", Check.tell(x, HEAD + "stack a uuu;stack b ud"), 2, 0);
+        Check.due(x, "no stack of the third", x.sum(2), -100, 1);
+        Check.dueNoSuch("led(0) of the fourth", x, 0);
+        Check.due(x, "calmest() of the fourth", x.calmest(), 0, 0);
     }
 
     private static void faultAndWhere() {
