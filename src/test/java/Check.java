@@ -31,6 +31,14 @@ final class Check {
         due(x, what, got ? 1 : 0, want ? 1 : 0, trouble);
     }
 
+    static void same(String what, String got, String want) {
+        asked++;
+        if (!got.equals(want)) {
+            wrong++;
+            System.out.println(what + " is\n" + got + "\ndue is\n" + want);
+        }
+    }
+
     static void dueNoSuch(String what, ClosePacking x, int i) {
         int thrown = 0;
         try {
