@@ -1,3 +1,5 @@
+import java.util.ArrayList;
+import java.util.List;
 import java.util.function.Supplier;
 
 /** Boundary cases of promises 49 to 56: acts on stacks of 2 and of 12 steps, undoing none to sixteen, images. */
@@ -18,6 +20,7 @@ public final class EdgesOfActsTest {
         undoOne();
         undoEachAct();
         sixteenAreKept();
+        sixteenOfOtherLengths();
         undoAndAct();
         images();
         imagesRefused();
@@ -250,6 +253,28 @@ public final class EdgesOfActsTest {
             Check.due(x, "undo() of one more of " + acts, x.undo(), false, 6);
             int left = (acts - kept + 11) % 12;
             dueNow("the first ones stay done", x, 0, 12, 4095 - (1 << left), 0);
+        }
+    }
+
+    /** Of acts by which stacks are longer and shorter, on all five in turn. */
+    private static void sixteenOfOtherLengths() {
+        for (int acts = 15; acts <= 34; acts++) {
+            ClosePacking x = Edge.stacks("ud", "uud", "uuuuuuuuuuuu", "dddddddddddd", "uddudd");
+            List<String> ahead = new ArrayList<>();
+            for (int i = 0; i < acts; i++) {
+                ahead.add(Edge.rows(x));
+                int s = i % 5;
+                if (s < 2 || s == 4 && i % 2 == 0) {
+                    x.grow(s, i % 3 == 0);
+                } else {
+                    x.cut(s);
+                }
+            }
+            for (int i = acts - 1; i >= Math.max(0, acts - 16); i--) {
+                Check.due(x, "undo() of act " + i + " of " + acts, x.undo(), true, 0);
+                Check.same("rows ahead of act " + i + " of " + acts, Edge.rows(x), ahead.get(i));
+            }
+            Check.due(x, "undo() of one more of " + acts, x.undo(), false, 6);
         }
     }
 

@@ -7,6 +7,7 @@ public final class EdgesOfGroundAndKindsTest {
         groundOfTwo();
         groundOfTwelve();
         groundOfExtremes();
+        groundByItself();
         groundIsOfTheLab();
         groundRefused();
         groundBest();
@@ -82,6 +83,23 @@ public final class EdgesOfGroundAndKindsTest {
 
     private static int step(int row, int n, int k) {
         return (row >> (n - 1 - k % n)) % 2 == 1 ? 1 : -1;
+    }
+
+    /** Each call by itself, behind one of another n, and of another lab. */
+    private static void groundByItself() {
+        for (int n = 2; n <= 12; n += 5) {
+            int steps = n;
+            for (int ahead = 2; ahead <= 12; ahead += 5) {
+                ClosePacking x = Edge.lab(-1, 0, 0, 0, "ud");
+                x.ground(ahead);
+                Edge.taken("groundRow(" + n + ")", x, y -> y.groundRow(steps), n == 2 ? 1 : n == 7 ? 0x15 : 0x555);
+                x.ground(ahead);
+                Edge.taken("groundMany(" + n + ")", x, y -> y.groundMany(steps), n == 7 ? 14 : 2);
+                Check.tell(x, "lab near 1 second 0 third 0 growth 0;stack a ud");
+                Edge.taken("groundRow(" + n + ") of another lab", x, y -> y.groundRow(steps), 0);
+                Edge.taken("ground(" + n + ") of another lab", x, y -> y.ground(steps), -n);
+            }
+        }
     }
 
     /** Not of the stacks, nor of acts. */

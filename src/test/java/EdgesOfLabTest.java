@@ -244,6 +244,16 @@ public final class EdgesOfLabTest {
         Check.due(x, "the first image again", x.image(), 0, 0);
         Check.due(x, "fits of no unsure ones", x.fits(), 1, 0);
         Check.due(x, "judge of no agreed ones", x.judge(), -2, 0);
+        // Behind most and two labs, and behind one that was refused with all of its lines read.
+        for (int i = 0; i < 3; i++) {
+            Check.due(x, "lab of fewest " + i, Check.tell(x, Edge.FEWEST), 1, 0);
+            Check.due("unsure ones of fewest", x.size(5), 0);
+            Check.due("agreed ones of fewest", x.size(6), 0);
+            Check.due(x, "judge of fewest", x.judge(), -2, 0);
+            Check.due(x, "no second stack", x.energy(1), -1000000, 1);
+            Check.due(x, "a lab of most, refused", Check.tell(x, Edge.MOST + "="), -1, 4);
+        }
+        Check.due(x, "the lab of the full tape again", Check.tell(x, Edge.HEAD + "stack z dud;stack y uudu"), 2, 0);
         // The same text once more: as told, not as it is now.
         x.twin(0);
         Check.due("told again", Check.tell(x, Edge.HEAD + "stack z dud;stack y uudu"), 2);

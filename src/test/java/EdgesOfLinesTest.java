@@ -142,6 +142,10 @@ public final class EdgesOfLinesTest {
         dueSame("uuu", "ddd", 0);
         // One of nine lines stays, line 6; and three, lines 2, 5, 8.
         dueSame("uuuuuuuuu", "uud", 0);
+        // Unlike by line 0 alone.
+        dueSame("uududd", "uuuddd", 0);
+        dueSame("uuuuududd", "uuuuuuddd", 0);
+        dueSame("uuuuuuuududd", "uuuuuuuuuddd", 0);
         ClosePacking x = Edge.most();
         for (int s = 0; s < 5; s++) {
             int stack = s;

@@ -53,6 +53,8 @@ public final class EdgesOfSlipsTest {
         dueSlips(LAST_DOWN, "uddddddddddd", 10, 0, 0, 0);
         dueSlips("uuuuuuuududd", "dddddddduduu", 6, 0, 2, 0);
         dueSlips("uuuuuuuududd", "uududddddddd", 6, 2, 0, 0);
+        // Told from its end, each step as it is: by 3 alone.
+        dueSlips("uuuuuuuududd", "dduduuuuuuuu", 2, 2, 2, 0);
         dueSlips("uu", "uuu", -2, -2, -2, -2);
         dueSlips(UP, "uuuuuuuuuuu", -2, -2, -2, -2);
         dueSlips("ud", UP, -2, -2, -2, -2);
@@ -130,6 +132,7 @@ public final class EdgesOfSlipsTest {
             String before = Edge.seen(x);
             Edge.taken("relax of " + rows[i], x, y -> y.relax(0), slips[i]);
             Edge.taken("relaxed of " + rows[i], x, y -> y.relaxed(0), ends[i]);
+            Edge.taken("relax of " + rows[i] + " again", x, y -> y.relax(0), slips[i]);
             x.calmest();
             Check.same("what relax() leaves", Edge.seen(x), before);
         }
@@ -242,6 +245,8 @@ public final class EdgesOfSlipsTest {
             Edge.taken("bestFault of " + rows[i], changes(rows[i]), x -> x.bestFault(0), due[i]);
         }
         Edge.taken("all alike", Edge.lab(0, 0, 0, 0, "uud"), x -> x.bestFault(0), 1);
+        // The row itself is lower than each: of one step the other way -64, of two and more -68.
+        Edge.taken("least of faults, not of the row", Edge.lab(9, -1, 0, 0, UP), x -> x.bestFault(0), 2);
         ClosePacking x = changes("uuu");
         x.cut(0);
         Edge.taken("of two steps now", x, y -> y.bestFault(0), 1);

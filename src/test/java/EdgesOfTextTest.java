@@ -136,6 +136,16 @@ public final class EdgesOfTextTest {
         fault(1, "lab near 1^- second");
         fault(1, "lab near - ^second");
         fault(1, "lab near - ^; second");
+        fault(1, "lab near ^;5 second");
+        // WHOLES that are as much as the signs - and ; are.
+        ClosePacking x = good(1, "lab near 45 second 59 third -45 growth 45;stack a ud");
+        Check.due("near 45", x.size(0), 145);
+        Check.due("second 59", x.size(1), 159);
+        Check.due("third -45", x.size(2), 55);
+        fault(1, "lab near ^0045 5 second");
+        fault(1, A + " ^0059 stack b ud");
+        fault(1, A + " ^59 stack b ud");
+        fault(1, "lab near ^; 5 second");
     }
 
     /** "growth 0 .. 100 in a hundred" */
